@@ -782,7 +782,6 @@ public final class QuotaDesk {
         private void giveParts(long sum) {
             long whole = left;
             for (int g = 0; g < MOST_GATES; g++) {
-                remainders[g] = NONE;
                 if (wantsMore(g)) {
                     long part = whole * uses[g];
                     remainders[g] = part % sum;

@@ -137,6 +137,25 @@ public final class PromisesTest {
         Check.due("rule 0 anew", x.there(0), 56);
         x.pass(1);
         Check.due("errors are 0 anew", x.about(1, 0), 4);
+        setupInTheMidst();
+    }
+
+    private static void setupInTheMidst() {
+        QuotaDesk x = new QuotaDesk();
+        fetch(x, 0, 40);
+        x.admit(0, 17);
+        x.plead(0, 5);
+        x.deliver(0);
+        x.setup(100, 10, 2, 2);
+        dueFresh("gate 0 had units and letters", x, 100, 2, 2);
+        x.setup(100, 2, 0, 4);
+        dueFresh("more gates than ever", x, 100, 0, 4);
+        x.pass(1);
+        Check.due("W is 2: window 0", x.about(3, 1), 0);
+        x.pass(1);
+        Check.due("W is 2: window 1", x.about(3, 1), 1);
+        fetch(x, 3, 7);
+        Check.due("a gate that was not there before", x.has(3, 1, 0), 7);
     }
 
     // Promise 3
@@ -487,6 +506,15 @@ public final class PromisesTest {
         x = waiting(spentBefore(10, 1, 2, 4), 2, 90, 90, 90);
         x.split();
         dueShares("10/7 20/7 40/7: the greatest remainder", x, 1, 1, 3, 6);
+        x = waiting(spentBefore(9, 1, 2, 4), 2, 90, 90, 90);
+        x.split();
+        dueShares("9/7 18/7 36/7: by remainders, not by parts", x, 1, 1, 3, 5);
+        x = waiting(spentBefore(100, 1, 0), 2, 90, 90);
+        x.split();
+        dueShares("a sum of 1 is not 0", x, 1, 90, 10);
+        x = waiting(spentBefore(100, 40, 10, 8), 2, 20, 30, 90);
+        x.split();
+        dueShares("17 and 13 first, then not more than wanted", x, 1, 20, 30, 50);
         x = waiting(spentBefore(100, 30, 0, 0), 2, 90, 0, 90);
         x.split();
         dueShares("what one does not want goes on", x, 1, 90, 0, 10);
@@ -543,6 +571,13 @@ public final class PromisesTest {
         dueLetter("the least window first", x, 0, 2, 0, 1, 0, 8, 0);
         dueLetter("then the next", x, 1, 2, 1, 1, 1, 8, 0);
         Check.due("nothing waits", x.count(3), 0);
+        x = made(10, 10, 4, 2);
+        x.error(1, 4);
+        x.pass(2);
+        waiting(x, 1, 8, 9);
+        Check.due("the desk's window and the one behind it", x.split(), 17);
+        dueLetter("its own", x, 0, 2, 0, 1, 0, 8, 0);
+        dueLetter("the one behind it", x, 1, 2, 1, 1, 1, 9, 0);
         for (int before : new int[] {48, 49, 50}) {
             splitNearTheLimit(before);
         }
@@ -798,6 +833,17 @@ public final class PromisesTest {
         x.pass(30);
         x.resend(0);
         dueLetter("as it was sent", x, 0, 0, 0, 3, 1, 2, 0);
+        QuotaDesk y = new QuotaDesk();
+        fetch(y, 0, 20);
+        y.admit(0, 6);
+        y.pass(8);
+        y.plead(0, 2);
+        y.back(0, 0, 4);
+        y.lose(0);
+        y.lose(0);
+        Check.due("a plea and a return", y.resend(0), 2);
+        dueLetter("with what it told", y, 0, 0, 0, 2, 1, 2, 6);
+        dueLetter("with its window", y, 1, 1, 0, 3, 0, 4, 0);
     }
 
     // Promise 15
@@ -957,7 +1003,21 @@ public final class PromisesTest {
         dueHas("down", x, 20, 3, 16);
         x.pass(18);
         dueHas("dropped", x, 0, 0, 0);
-        Check.due("the window in its place", x.has(0, 3, 0), 0);
+        for (int what = 0; what <= 2; what++) {
+            Check.due("the window in its place", x.has(0, 3, what), 0);
+        }
+        QuotaDesk y = new QuotaDesk();
+        for (int window = 0; window < 7; window++) {
+            fetch(y, 1, 20);
+            y.admit(1, 3);
+            for (int k = window - 2; k <= window + 2; k++) {
+                boolean kept = k >= 0 && (k == window - 1 || k == window);
+                Check.due("window " + window + ": share of " + k, y.has(1, k, 0), kept ? 20 : 0);
+                Check.due("window " + window + ": spent of " + k, y.has(1, k, 1), kept ? 3 : 0);
+                Check.due("window " + window + ": stored of " + k, y.has(1, k, 2), kept ? 16 : 0);
+            }
+            y.pass(10);
+        }
     }
 
     // Promise 21
@@ -1034,6 +1094,16 @@ public final class PromisesTest {
         x.admit(0, 1);
         Check.due("one more tick", x.busiest(4), 1995);
         Check.due("still 2000", x.busiest(1000000), 2000);
+        x.setup(1000000, 10000, 0, 1);
+        Check.due("anew: none", x.busiest(1000000), 0);
+        fetch(x, 0, 5000);
+        for (int k = 0; k < 6; k++) {
+            x.admit(0, 500 + k);
+            x.pass(10);
+        }
+        Check.due("anew: the latest 2000", x.busiest(1000000), 2000);
+        Check.due("anew: a tick", x.busiest(10), 505);
+        Check.due("anew: three ticks", x.busiest(21), 504 + 505 + 503);
         QuotaDesk far = made(100, 10, 0, 1);
         fetch(far, 0, 5);
         far.admit(0, 5);

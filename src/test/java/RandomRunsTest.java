@@ -9,15 +9,16 @@ public final class RandomRunsTest {
     private static final int SHOWN = 40;
     private static final int THROWN = 1 << 20;
 
-    /** How often each deed is done, in the order of its cases in one(). */
+    /** How often each deed is done, in the order of its cases in one() and post(). */
     private static final int[][] MOODS = {
-        {1, 12, 6, 6, 20, 25, 10, 8, 10, 12, 3, 3, 3, 2, 3, 2},
-        {0, 4, 3, 2, 10, 60, 10, 6, 6, 2, 2, 10, 8, 1, 1, 1},
-        {0, 3, 2, 3, 30, 30, 5, 15, 5, 20, 1, 1, 2, 1, 2, 0},
-        {2, 20, 10, 4, 20, 20, 4, 8, 20, 6, 6, 6, 6, 4, 6, 4},
-        {0, 1, 1, 4, 3, 40, 2, 12, 30, 0, 6, 2, 1, 0, 1, 0},
-        {0, 6, 1, 0, 50, 25, 1, 5, 1, 20, 0, 0, 1, 1, 1, 0},
-        {0, 2, 1, 1, 20, 40, 6, 3, 60, 8, 2, 2, 2, 1, 2, 1},
+        {1, 12, 6, 6, 20, 25, 10, 8, 10, 12, 3, 3, 3, 2, 3, 2, 0},
+        {0, 4, 3, 2, 10, 60, 10, 6, 6, 2, 2, 10, 8, 1, 1, 1, 0},
+        {0, 3, 2, 3, 30, 30, 5, 15, 5, 20, 1, 1, 2, 1, 2, 0, 1},
+        {2, 20, 10, 4, 20, 20, 4, 8, 20, 6, 6, 6, 6, 4, 6, 4, 0},
+        {0, 1, 1, 4, 3, 40, 2, 12, 30, 0, 6, 2, 1, 0, 1, 0, 0},
+        {0, 6, 1, 0, 50, 25, 1, 5, 1, 20, 0, 0, 1, 1, 1, 0, 0},
+        {0, 2, 1, 1, 20, 40, 6, 3, 60, 8, 2, 2, 2, 1, 2, 1, 0},
+        {1, 1, 3, 1, 5, 3, 1, 1, 1, 1, 1, 1, 1, 1, 1, 1, 20},
     };
 
     private final Random random;
@@ -27,6 +28,7 @@ public final class RandomRunsTest {
     private final Deque<String> trace = new ArrayDeque<>();
     private final String name;
     private boolean sound = true;
+    private int calls = 0;
     private int e = 2;
     private int budget = 100;
     private int width = 10;
@@ -38,7 +40,7 @@ public final class RandomRunsTest {
     }
 
     public static void main(String[] args) {
-        int runs = args.length > 0 ? Integer.parseInt(args[0]) : 350;
+        int runs = args.length > 0 ? Integer.parseInt(args[0]) : 400;
         int wrong = 0;
         for (int seed = 0; seed < runs && wrong < 3; seed++) {
             RandomRunsTest test = new RandomRunsTest(seed);
@@ -52,9 +54,9 @@ public final class RandomRunsTest {
         if (random.nextInt(4) > 0) {
             setup();
         }
-        for (int call = 0; call < CALLS && sound; call++) {
+        for (int deed = 0; calls < CALLS && sound; deed++) {
             one();
-            if (call % 8 == 0 || random.nextInt(10) == 0) {
+            if (deed % 8 == 0 || random.nextInt(10) == 0) {
                 look();
             }
         }
@@ -75,6 +77,7 @@ public final class RandomRunsTest {
         if (!sound) {
             return;
         }
+        calls++;
         long got = answer(program);
         long want = answer(due);
         trace.add(call + " => " + want);
@@ -221,14 +224,49 @@ public final class RandomRunsTest {
             case 14:
                 same("restart(" + g + ")", () -> desk.restart(g) ? 1 : 0, () -> model.restart(g) ? 1 : 0);
                 return;
-            default:
+            case 15:
                 boolean down = random.nextInt(3) == 0;
                 same("desk(" + down + ")", () -> desk.desk(down) ? 1 : 0, () -> model.desk(down) ? 1 : 0);
+                return;
+            default:
+                season();
         }
+    }
+
+    /** A whole window: all gates plead, the desk splits, the gates spend, time goes on to the next one. */
+    private void season() {
+        int rule = 1 + random.nextInt(2);
+        sameDeed("rule(" + rule + ")", () -> desk.rule(rule), () -> model.rule(rule));
+        for (int gate = 0; gate < model.count(2); gate++) {
+            int g = gate;
+            int n = 1 + random.nextInt(Math.max(3, random.nextBoolean() ? budget : budget / model.count(2)));
+            if (random.nextInt(5) > 0) {
+                sameDeed("plead(" + g + ", " + n + ")", () -> desk.plead(g, n), () -> model.plead(g, n));
+            }
+        }
+        same("deliverAll(1000)", () -> desk.deliverAll(1000), () -> model.deliverAll(1000));
+        same("split()", desk::split, model::split);
+        same("deliverAll(1000)", () -> desk.deliverAll(1000), () -> model.deliverAll(1000));
+        for (int gate = 0; gate < model.count(2); gate++) {
+            int g = gate;
+            int n = 1 + random.nextInt(Math.min(1000, random.nextBoolean() ? budget : 6));
+            if (random.nextInt(4) > 0) {
+                same("admit(" + g + ", " + n + ")", () -> desk.admit(g, n), () -> model.admit(g, n));
+            }
+        }
+        look();
+        sameDeed("pass(" + width + ")", () -> desk.pass(width), () -> model.pass(width));
     }
 
     /** Everything that can be seen from outside. */
     private void look() {
+        int before = calls;
+        lookAtAll();
+        // A look changes nothing, so that it need not count among the calls that an object is good for.
+        calls = before;
+    }
+
+    private void lookAtAll() {
         for (int what = -1; what <= 4; what++) {
             int w = what;
             same("count(" + w + ")", () -> desk.count(w), () -> model.count(w));
