@@ -16,6 +16,7 @@ public final class QuotaDesk {
     private static final int MOST_PLEA = 1000000;
     private static final int MOST_DELIVERIES = 1000;
     private static final int COUNTED_WINDOWS = 200;
+    private static final long LOWEST_31_BITS = 0x7fffffffL;
 
     private static final int KEPT_WINDOWS = 3;
     private static final int RULE_AT_ONCE = 0;
@@ -376,7 +377,7 @@ public final class QuotaDesk {
             case 0:
                 return pool.size;
             case 1:
-                return (int) (time & Integer.MAX_VALUE);
+                return (int) (time & LOWEST_31_BITS);
             case 2:
                 return gateCount;
             case 3:
@@ -596,10 +597,10 @@ public final class QuotaDesk {
         }
 
         void put(int sort, int gate, int number, int window, int units, int told) {
-            if (isFull()) {
+            if (size >= MOST_LETTERS) {
                 return;
             }
-            int at = start(size);
+            int at = (first + size) % MOST_LETTERS * COLUMNS;
             cells[at + SORT] = sort;
             cells[at + GATE] = gate;
             cells[at + NUMBER] = number;
@@ -742,7 +743,7 @@ public final class QuotaDesk {
         }
 
         private int leastWish() {
-            int least = Integer.MAX_VALUE;
+            int least = left;
             for (int g = 0; g < MOST_GATES; g++) {
                 if (wantsMore(g)) {
                     least = Math.min(least, wants[g] - gets[g]);
