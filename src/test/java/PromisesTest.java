@@ -1,10 +1,5 @@
 /** A method for each promise of the document: ordinary calls, the edges that it names, and wrong inputs. */
-public final class PromisesTest {
-    private static final Class<IndexOutOfBoundsException> NO_SUCH = IndexOutOfBoundsException.class;
-    private static final Class<IllegalArgumentException> WRONG = IllegalArgumentException.class;
-    private static final Class<IllegalStateException> DOWN = IllegalStateException.class;
-    private static final Class<UnsupportedOperationException> SHUT = UnsupportedOperationException.class;
-
+public final class PromisesTest extends Desks {
     private PromisesTest() {
     }
 
@@ -41,24 +36,6 @@ public final class PromisesTest {
         busiest();
         count();
         Check.end("PromisesTest");
-    }
-
-    private static QuotaDesk made(int l, int w, int e, int gates) {
-        QuotaDesk x = new QuotaDesk();
-        x.setup(l, w, e, gates);
-        return x;
-    }
-
-    /** A gate pleads and gets, by rule 0, with nothing left in the pool. */
-    private static void fetch(QuotaDesk x, int gate, int n) {
-        x.plead(gate, n);
-        x.deliverAll(1000);
-    }
-
-    private static void dueLetter(String what, QuotaDesk x, int i, int... columns) {
-        for (int k = 0; k < columns.length; k++) {
-            Check.due(what + ": letter(" + i + ", " + k + ")", x.letter(i, k), columns[k]);
-        }
     }
 
     private static void dueFresh(String what, QuotaDesk x, int l, int e, int gates) {
@@ -272,9 +249,7 @@ public final class PromisesTest {
     }
 
     private static void dueHas(String what, QuotaDesk x, int share, int spent, int stored) {
-        Check.due(what + ": share", x.has(0, 0, 0), share);
-        Check.due(what + ": spent", x.has(0, 0, 1), spent);
-        Check.due(what + ": stored", x.has(0, 0, 2), stored);
+        dueUnits(what, x, 0, share, spent, stored);
     }
 
     private static void admitStoresInChunks() {
@@ -430,24 +405,6 @@ public final class PromisesTest {
         Check.due("received", x.has(0, 0, 0), 9);
     }
 
-    private static QuotaDesk waiting(QuotaDesk x, int r, int... wants) {
-        x.rule(r);
-        for (int g = 0; g < wants.length; g++) {
-            if (wants[g] > 0) {
-                x.plead(g, wants[g]);
-            }
-        }
-        x.deliverAll(1000);
-        return x;
-    }
-
-    private static void dueShares(String what, QuotaDesk x, int window, int... shares) {
-        x.deliverAll(1000);
-        for (int g = 0; g < shares.length; g++) {
-            Check.due(what + ": gate " + g, x.has(g, window, 0), shares[g]);
-        }
-    }
-
     // Promise 9
     private static void splitEqually() {
         QuotaDesk none = new QuotaDesk();
@@ -481,19 +438,6 @@ public final class PromisesTest {
         Check.due("pleas of a gate and window are one", x.count(3), 2);
         x.split();
         dueShares("added", x, 0, 10, 10);
-    }
-
-    /** Each gate has spent so many in window 0 when window 1 begins. */
-    private static QuotaDesk spentBefore(int l, int... spent) {
-        QuotaDesk x = made(l, 10, 0, spent.length);
-        for (int g = 0; g < spent.length; g++) {
-            if (spent[g] > 0) {
-                fetch(x, g, spent[g]);
-                x.admit(g, spent[g]);
-            }
-        }
-        x.pass(10);
-        return x;
     }
 
     private static void splitByUse() {
