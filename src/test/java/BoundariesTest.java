@@ -675,7 +675,7 @@ public final class BoundariesTest extends Desks {
         for (int more = -1; more <= 3; more++) {
             latest2000(more);
         }
-        thousandATick();
+        thousandATick(new QuotaDesk());
         admissionsAnew();
     }
 
@@ -724,8 +724,8 @@ public final class BoundariesTest extends Desks {
     }
 
     /** Whole ticks are forgotten, one after another. */
-    private static void thousandATick() {
-        QuotaDesk x = made(10000, 10000, 0, 1);
+    private static void thousandATick(QuotaDesk x) {
+        x.setup(10000, 10000, 0, 1);
         fetch(x, 0, 10000);
         for (int k = 1; k <= 6; k++) {
             x.admit(0, 1000);
@@ -735,27 +735,39 @@ public final class BoundariesTest extends Desks {
             x.pass(1);
         }
         x.admit(0, 1);
-        Check.due("1000 and 1", x.busiest(2), 1999);
+        Check.due("999 and 1000", x.busiest(2), 1999);
         Check.due("999, 1000 and 1", x.busiest(3), 2000);
         x.admit(0, 999);
         Check.due("1000 and 1000", x.busiest(2), 2000);
         Check.due("no others count", x.busiest(1000000), 2000);
     }
 
+    /** What was admitted before a setup counts no more, whether ticks come again or others come. */
     private static void admissionsAnew() {
         QuotaDesk x = new QuotaDesk();
-        for (int round = 0; round < 3; round++) {
+        for (int start : new int[] {0, 0, 1, 2, 2, 0}) {
             x.setup(10000, 10000, 0, 1);
             Check.due("none", x.busiest(1000000), 0);
             fetch(x, 0, 10000);
-            x.admit(0, 999);
-            Check.due("at the first tick", x.busiest(1), 999);
+            x.pass(start);
+            x.admit(0, 900);
+            Check.due("at the first tick", x.busiest(1), 900);
             x.pass(1);
             x.admit(0, 1000);
             Check.due("at the next one", x.busiest(1), 1000);
-            Check.due("1999 are all among the latest 2000", x.busiest(2), 1999);
-            Check.due("used", x.used(0), 1999);
+            Check.due("both", x.busiest(2), 1900);
+            x.pass(1);
+            x.admit(0, 100);
+            Check.due("at the last one", x.busiest(1), 1000);
+            Check.due("the last two", x.busiest(2), 1900);
+            Check.due("2000 are all among the latest 2000", x.busiest(3), 2000);
+            Check.due("used", x.used(0), 2000);
         }
+        for (int tick = 0; tick < 12; tick++) {
+            x.admit(0, 100);
+            x.pass(1);
+        }
+        thousandATick(x);
     }
 
     // Promise 24: "what = 0 letters in the pool, 1 true time (its lowest 31 bits), 2 gates, 3 pleas that wait"

@@ -87,6 +87,10 @@ final class SplitTerms extends Desks {
         dueSplit("8 gates, 9 units", waiting(made(9, 10, 0, 8), 1, 9, 9, 9, 9, 9, 9, 9, 9), 0, 2, 1, 1, 1, 1, 1, 1, 1);
         dueSplit("one gate", waiting(made(5, 10, 0, 1), 1, 9), 0, 5);
         dueSplit("one unit", waiting(made(1, 10, 0, 3), 1, 0, 9, 9), 0, 0, 1, 0);
+        dueSplit("seven want one, one wants all", waiting(made(1000000, 10, 0, 8), 1, 1, 1, 1, 1, 1, 1, 1, 1000000), 0,
+                1, 1, 1, 1, 1, 1, 1, 999993);
+        dueSplit("one by one they have enough", waiting(made(1000000, 10, 0, 8), 1, 1, 2, 3, 4, 5, 6, 7, 1000000), 0,
+                1, 2, 3, 4, 5, 6, 7, 999972);
         dueSplit("the most", waiting(made(1000000, 10, 0, 3), 1, 1000000, 1000000, 1), 0, 500000, 499999, 1);
     }
 
